@@ -431,8 +431,8 @@ public final class NibbleEngine {
         DIGITS("digits", true, "px:Lqy=", 0), ZONES("zones", true, "px:Lqy=", 0),
         EDIT("edit", true, "px:Lqy", 0), MARK("mark", true, "px:Lqy", 0),
         SHIFT("shift", true, "px:lsd", 1), TEST("test", true, "px:l", 0),
-        BIN("bin", true, "rpx8", 1), DEC("dec", true, "rpx8", 0), LOAD("load", true, "rpx", 0),
-        PLUS("plus", true, "r+", 0), COUNT("count", true, "rn", 0), ON("on", true, "on", 0),
+        BIN("bin", true, "%rpx8", 1), DEC("dec", true, "%rpx8", 0), LOAD("load", true, "%rpx", 0),
+        PLUS("plus", true, "%r+", 0), COUNT("count", true, "%rn", 0), ON("on", true, "on", 0),
         GUARD("guard", true, "gN", 0), BACK("back", true, "", 0), HALT("halt", true, "", 0);
 
         private static final Word[] ALL = values();
@@ -641,7 +641,7 @@ public final class NibbleEngine {
                 return;
             }
             advance();
-            int sign = passMinus() ? BELOW : ABOVE;
+            int sign = passed('-') ? BELOW : ABOVE;
             int from = start;
             int to = end;
             if (type != NUMBER) {
@@ -728,19 +728,20 @@ public final class NibbleEngine {
         private void readPiece(Instruction fresh, int piece) {
             switch (piece) {
                 case 'p': fresh.placeA = passNumber(0, Row.PLACES - 1); break;
-                case 'x': fresh.registerA = isSign('%') ? readRegister() : NONE; break;
+                case 'x': fresh.registerA = passed('%') ? passNumber(0, 7) : NONE; break;
                 case 'q': fresh.placeB = passNumber(0, Row.PLACES - 1); break;
-                case 'y': fresh.registerB = isSign('%') ? readRegister() : NONE; break;
+                case 'y': fresh.registerB = passed('%') ? passNumber(0, 7) : NONE; break;
                 case ':': passSign(':'); break;
                 case 'l': fresh.lengthA = passNumber(1, 16); break;
                 case 'L': fresh.lengthA = passNumber(1, 64); break;
                 case 'm': fresh.lengthB = passNumber(1, 16); break;
                 case '=': fresh.lengthB = fresh.lengthA; break;
                 case '8': fresh.lengthA = 8; break;
-                case 'r': fresh.register = readRegister(); break;
-                case 's': fresh.number = passMinus() ? -passNumber(0, 32) : passNumber(0, 31); break;
+                case '%': passSign('%'); break;
+                case 'r': fresh.register = passNumber(0, 7); break;
+                case 's': fresh.number = passed('-') ? -passNumber(0, 32) : passNumber(0, 31); break;
                 case 'd': fresh.rounding = passNumber(0, 9); break;
-                case '+': fresh.number = passMinus() ? -passNumber(0, 9999) : passNumber(0, 9999); break;
+                case '+': fresh.number = passed('-') ? -passNumber(0, 9999) : passNumber(0, 9999); break;
                 case 'o': fresh.number = passNumber(0, 15); break;
                 case 'g': fresh.number = passNumber(1, 8); break;
                 case 'n': readTarget(); break;
@@ -750,11 +751,6 @@ public final class NibbleEngine {
                     }
                     break;
             }
-        }
-
-        private int readRegister() {
-            passSign('%');
-            return passNumber(0, 7);
         }
 
         private void readTarget() {
@@ -806,24 +802,25 @@ public final class NibbleEngine {
             return name;
         }
 
-        private boolean isSign(int sign) {
+        private boolean isHere(int sign) {
             return kind == 0 && type == SIGN && byteAt(start) == sign;
         }
 
+        /** Goes on behind a sign that may stand here: whether it does. */
+        private boolean passed(int sign) {
+            boolean here = isHere(sign);
+            if (here) {
+                advance();
+            }
+            return here;
+        }
+
         private void passSign(int sign) {
-            if (isSign(sign)) {
+            if (isHere(sign)) {
                 advance();
             } else {
                 fail(MISPLACED);
             }
-        }
-
-        private boolean passMinus() {
-            boolean minus = isSign('-');
-            if (minus) {
-                advance();
-            }
-            return minus;
         }
 
         private int passNumber(int least, int most) {
@@ -1597,7 +1594,7 @@ public final class NibbleEngine {
             int carry = 0;
             for (int i = 0; i < ROOM; i++) {
                 int sum = carry;
-                for (int j = 0; j <= i; j++) {
+                for (int j = Math.max(0, i - b.size + 1); j <= i && j < a.size; j++) {
                     sum += a.digits[j] * b.digits[i - j];
                 }
                 digits[i] = sum % 10;
@@ -1933,6 +1930,15 @@ public final class NibbleEngine {
             noted = 0;
         }
 
+        /** Behind how many STEPS the last of what is NOTED is seen, NONE if nothing is. */
+        int latestNote() {
+            int latest = NONE;
+            for (int i = 0; i < noted; i++) {
+                latest = Math.max(latest, notes[3 * i]);
+            }
+            return latest;
+        }
+
         /** Whether all that is NOTED for behind so many STEPS is so in a row. */
         boolean bears(Row row, int steps) {
             for (int i = 0; i < noted; i++) {
@@ -2096,11 +2102,12 @@ public final class NibbleEngine {
 
         private boolean bears(Desk desk) {
             boolean going = true;
-            for (int steps = 0; steps <= Desk.LATEST_NOTE; steps++) {
+            int latest = desk.latestNote();
+            for (int steps = 0; steps <= latest && steps <= Desk.LATEST_NOTE; steps++) {
                 if (!desk.bears(probe, steps)) {
                     return false;
                 }
-                if (going && probe.running()) {
+                if (going && steps < latest && probe.running()) {
                     going = processor.step(probe) == 0;
                 }
             }

@@ -62,6 +62,8 @@ public final class FieldTest {
         Check.due("10: in turn", 1, () -> y.trace(0));
         Check.due("10: in turn, too", 0, () -> y.trace(1));
         Check.due("10: the oldest", 0, () -> y.trace(63));
+        Check.due("9: the first one, 36 times", 36, () -> y.done(0));
+        Check.due("9: the second one, 35 times", 35, () -> y.done(1));
     }
 
     private static void why(String text, int steps, int... cause) {

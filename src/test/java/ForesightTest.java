@@ -321,7 +321,7 @@ public final class ForesightTest {
 
     private static void promise34() {
         NibbleEngine empty = new NibbleEngine();
-        NibbleEngine failing = Check.told("plus %1 1;test 250:7;");
+        NibbleEngine failing = Check.told("plus %0 1;test 250:7;");
         NibbleEngine looping = Check.told("guard 1 b;b:test 250:7;");
         for (int from : new int[] {0, 1, -1, 5, 123456789, Integer.MIN_VALUE, Integer.MAX_VALUE}) {
             for (int n = 0; n <= 20; n++) {
@@ -346,7 +346,9 @@ public final class ForesightTest {
     private static void years(NibbleEngine empty, NibbleEngine failing, NibbleEngine looping, int from, int n) {
         seed = from;
         int[] store = new int[256];
+        int[] storeFailing = new int[256];
         int laid = 0;
+        int laidFailing = 0;
         int renewedEmpty = 0;
         int renewedFailing = 0;
         boolean failed = false;
@@ -355,11 +357,13 @@ public final class ForesightTest {
             if (happening == 0) {
                 int place = draw(256);
                 store[place] = draw(256);
+                storeFailing[place] = store[place];
             } else if (happening == 1) {
                 renewedEmpty++;
                 store = new int[256];
                 if (failed) {
                     renewedFailing++;
+                    storeFailing = new int[256];
                     failed = false;
                 }
             }
@@ -368,6 +372,10 @@ public final class ForesightTest {
         for (int number : store) {
             laid += number != 0 ? 1 : 0;
         }
+        for (int number : storeFailing) {
+            laidFailing += number != 0 ? 1 : 0;
+        }
+        int unlikeFailing = laidFailing;
         String what = "34: seed " + from + ", " + n + " ";
         int anew = renewedEmpty;
         int unlike = laid;
@@ -378,6 +386,7 @@ public final class ForesightTest {
         Check.due(what + "unlike", unlike, () -> empty.years(from, n, 2));
         Check.due(what + "a FAULT whenever it begins", once + again, () -> failing.years(from, n, 0));
         Check.due(what + "anew behind a FAULT", again, () -> failing.years(from, n, 1));
+        Check.due(what + "REGISTERS are no bytes", unlikeFailing, () -> failing.years(from, n, 2));
         Check.due(what + "five STEPS a year", Math.max(0, 5 * n - 1), () -> looping.years(from, n, 0));
         Check.due(what + "never anew", 0, () -> looping.years(from, n, 1));
     }

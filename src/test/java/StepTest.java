@@ -97,6 +97,10 @@ public final class StepTest {
         stands("f1f2f3d4" + "ffffff", "pack 4:3 0:4", "f1f2f3d4" + "01234d", 0);
         stands("f1f2f3d4" + "ff", "pack 4:1 0:4", "f1f2f3d4" + "4d", 0);
         stands("a1" + "ffffff", "pack 1:3 0:1", "a1" + "00001a", 0);
+        stands("f1f2d3" + "ffff", "pack 3:2 0:3", "f1f2d3" + "123d", 0);
+        stands("f1f2d3" + "ffffff", "pack 3:3 0:3", "f1f2d3" + "00123d", 0);
+        stands("f9f1f2d3" + "ffff", "pack 4:2 1:3", "f9f1f2d3" + "123d", 0);
+        stands("f9f1d3" + "ffff", "pack 3:2 1:2", "f9f1d3" + "013d", 0);
         stands("f1f2f3c4", "pack 0:4 0:4", "0001234c", 0);
         stands("f1f2f3c4", "pack 1:3 0:4", "f101234c", 0);
         // the byte that was laid last is looked at as it is then
@@ -125,6 +129,14 @@ public final class StepTest {
         stands("123456", "zones 1:2 0", "121416", 0);
         stands("a1b2c3", "digits 0:1 2", "a3b2c3", 0);
         stands("a1b2c3", "zones 0:1 2", "c1b2c3", 0);
+        stands("a2b1", "zones 0:1 1", "b2b1", 0);
+        stands("a2b1", "digits 0:1 1", "a1b1", 0);
+        stands("a6b9", "zones 0:1 1", "b6b9", 0);
+        fails("1c1c", "plus %1 1;copy 0:1 255%1", 1, 1);
+        fails("1c1c", "plus %1 1;add 0:1 255%1:1", 1, 1);
+        fails("1c1c", "plus %1 1;add 255%1:1 0:1", 1, 0);
+        fails("1c1c", "plus %1 1;test 255%1:1", 1, 0);
+        fails("1c1c", "plus %1 -1;copy 0:1 0%1", 1, 1);
         NibbleEngine x = Check.told("at 0 #0102;copy 192:64 0;copy 0:64 192;");
         x.steps(2);
         Check.bytes("17: 64 bytes", "010200", x, 192);

@@ -9,6 +9,8 @@ public final class TextTest {
         promise3Laying();
         promise3Forms();
         promise3Names();
+        promise3Again();
+        promise3Cut();
         promise4();
         promise4TooMuch();
         promise5();
@@ -123,7 +125,8 @@ public final class TextTest {
         String[] good = {"pack 0:1 255:16;", "unpack 0%0:16 255%7:1;", "offset 0 % 1 : 1 2:2;", "move 00:01 1:1;",
             "add 0:1 1:1;", "sub 0:1 1:1;", "compare 0:1 1:1;", "mul 0:1 1:16;", "div 0:1 1:1;", "copy 0:64 1%2;",
             "digits 0:1 255;", "zones 0:64 1;", "edit 0:64 1;", "mark 0:1 1%3;", "shift 0:1 31 9;", "shift 0:16-32 0;",
-            "shift 0:1 - 0 0;", "test 0:16;", "bin %7 1;", "dec %0 255;", "load %1 1%1;", "plus %1 9999;",
+            "shift 0:1 - 0 0;", "pack 0:1 0%0:1;", "plus %0 -0;", "plus %0 0;", "guard 1 a;a:halt;", "on 0 a;a:halt;", "count %0 a;a:halt;", "bin %0 0;",
+            "load %0 0;", "copy 0%0:1 0%0;", "shift 0:1 0 0;", "test 0:16;", "bin %7 1;", "dec %0 255;", "load %1 1%1;", "plus %1 9999;",
             "plus %1-9999;", "a:count %1 a;", "on 15 a;a:halt;", "guard 1;", "guard 8 a;a:back;", "abcdefgh:halt;",
             "a\n:\nhalt\n;\n", "", " \n ", "halt;halt;", "add0:1 1:1;", "shift 0:1-5 5;"};
         for (String text : good) {
@@ -164,7 +167,60 @@ public final class TextTest {
         fault("at abcdefghi", 1, 3);
     }
 
+    /** Nothing of earlier PROGRAMS is left, how many there were. */
+    private static void promise3Again() {
+        NibbleEngine x = new NibbleEngine();
+        for (int i = 0; i < 3; i++) {
+            Check.program(x, "at 0 #112233;at 200 #44;a:mark 9%3:16 9%3;on 15 a;guard 3 a;shift 5%2:9 -7 9;");
+            Check.program(x, "at 1 #55;add 9%3:16 9%3:16;guard 1 a;a:count %7 a;add 3%3:3 3%3:3;");
+            Check.program(x, "load %1 255;edit 0:2 254;guard 1;guard 3;test 250:6;");
+        }
+        Check.bytes("3: STORE", "0000000000", x, 0);
+        Check.due("3: STORE further on", 0, () -> x.at(200));
+        Check.due("3: all without a FAULT", 5, () -> x.steps(50));
+        Check.due("3: no FAULT", 0, () -> x.count(6));
+        Check.due("3: load", 255, () -> x.register(1));
+        Check.due("3: not GUARDED", -1, () -> x.guard(1));
+        NibbleEngine y = new NibbleEngine();
+        for (int i = 0; i < 3; i++) {
+            Check.program(y, "add 0%1:16 0%1:16;copy 0:64 0;");
+        }
+        Check.program(y, "load %1 255%1;load %2 250;edit 255:1 255;edit 254:2 255%1;");
+        y.set(1, 9);
+        Check.due("3: operands are read anew", 4, () -> y.steps(4));
+        Check.due("3: no FAULT of theirs", 0, () -> y.count(6));
+        Check.due("3: an ADDRESS beyond", 264, () -> y.register(1));
+        Check.due("3: without a REGISTER", 250, () -> y.register(2));
+    }
+
+    /** The TEXT ends behind n bytes, whatever stands behind them on the tape. */
+    private static void promise3Cut() {
+        String[] texts = {"halt     ", "halt;halt", "at 0 #0011", "add 0:17", "a:halt;", "on 1 abcdefghi;"};
+        int[] many = {4, 8, 8, 7, 5, 13};
+        int[] kinds = {1, 1, 1, 1, 1, 1};
+        int[] places = {4, 8, 8, 7, 2, 13};
+        for (int i = 0; i < texts.length; i++) {
+            NibbleEngine x = new NibbleEngine();
+            Check.feed(x, texts[i]);
+            int n = many[i];
+            Check.due("3: " + n + " bytes of " + texts[i], kinds[i], () -> x.program(n));
+            Check.due("3: place of " + texts[i], places[i], () -> x.fault());
+        }
+        NibbleEngine x = new NibbleEngine();
+        Check.feed(x, "halt;plus %1 12");
+        Check.due("3: as far as n", 0, () -> x.program(5));
+        Check.due("3: one INSTRUCTION", 1, () -> x.count(5));
+    }
+
     private static void promise4() {
+        fault("at;", 1, 2);
+        fault("at 0;", 1, 4);
+        fault("at 0 packed;", 1, 11);
+        fault("at 0 packed 5;", 1, 13);
+        fault("at 0 zoned -;", 1, 12);
+        fault("at 0 packed 5 in;", 1, 16);
+        fault("halt:halt;", 1, 4);
+        fault("guard 1 halt;", 1, 8);
         fault("halt", 1, 4);
         fault("halt \n", 1, 6);
         fault("add", 1, 3);
@@ -193,7 +249,6 @@ public final class TextTest {
         fault("at 0 halt;", 1, 5);
         fault("at #00;", 1, 3);
         fault("at 0 #00", 1, 8);
-        fault("at 0 packed 5 in;", 1, 16);
         fault("at 0%1 #00;", 1, 4);
         fault("add 0:1;", 1, 7);
         fault("add 0 1:1;", 1, 6);
