@@ -1302,7 +1302,7 @@ public final class NibbleEngine {
             first.takePacked(row, addressA, doing.lengthA);
             second.takePacked(row, addressB, doing.lengthB);
             result.multiply(first, second);
-            result.put(row, addressA, doing.lengthA, first.below() == second.below() ? ABOVE : BELOW);
+            result.put(row, addressA, doing.lengthA, result.below() ? BELOW : ABOVE);
             return 0;
         }
 
@@ -1314,7 +1314,7 @@ public final class NibbleEngine {
             if (left == NONE || result.size() > 2 * room - 1) {
                 return blame(QUOTIENT, 0);
             }
-            result.put(row, addressA, room, first.below() == second.below() ? ABOVE : BELOW);
+            result.put(row, addressA, room, first.below() != second.below() ? BELOW : ABOVE);
             result.takeNumber(left);
             result.put(row, addressA + room, doing.lengthB, first.below() ? BELOW : ABOVE);
             return 0;
@@ -1628,7 +1628,7 @@ public final class NibbleEngine {
         }
 
         void shiftRight(Decimal a, int n, int rounding) {
-            int carry = n > 0 && a.digit(n - 1) + rounding > 9 ? 1 : 0;
+            int carry = a.digit(n - 1) + rounding > 9 ? 1 : 0;
             for (int i = 0; i < ROOM; i++) {
                 int sum = a.digit(i + n) + carry;
                 carry = sum > 9 ? 1 : 0;

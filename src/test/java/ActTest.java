@@ -219,6 +219,7 @@ public final class ActTest {
         x.set(1, 99);
         x.steps(3);
         x.forget();
+        x.note(5, 3, 9);
         x.lay(-1, 0);
         x.note(-1, 0, 0);
         Check.due("36: true", true, x.restore());
@@ -272,6 +273,6 @@ public final class ActTest {
         for (int i = 0; i < 6; i++) {
             row.append(' ').append(x.why(i / 3, i % 3));
         }
-        return row.append(' ').append(x.blamed(3, 1, 0)).toString();
+        return row.append(' ').append(x.blamed(3, 1, 0)).append(' ').append(x.blamed(3, 1, 1)).toString();
     }
 }

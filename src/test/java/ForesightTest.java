@@ -197,7 +197,7 @@ public final class ForesightTest {
     }
 
     private static void promise30Named() {
-        // 0:1 has 15 digits' halves to the left: 9 other digits, 6 letters; to the right 10 digits
+        // of a byte with a digit and a SIGN: 6 letters to the left and 10 digits to the right are told
         spoilt("add", Check.told("at 0 #1c2c;add 0:1 1:1;halt;"), 1, 1, 2, 16, 3, 11, 200);
         spoilt("ZEROS", Check.told("at 0 #00001c1c;mul 0:3 3:1;"), 0, 1, 1, 30, 0, 0, -1);
         spoilt("guarded", Check.told("at 0 #1c2c;guard 4 g;add 0:1 1:1;halt;g:add 5:1 5:1;"), 1, 1, 9, 16, 3, 11, 200);
@@ -244,6 +244,12 @@ public final class ForesightTest {
         blamed("2 would be 4", x, 1, 1, 1, 204, 0);
         blamed("both", x, 0, 3, 2, 3, 0);
         blamed("another byte", x, 2, 2, 0, -1, 0);
+        NibbleEngine full = Check.told("at 0 #1c2c;add 0:1 1:1;halt;");
+        for (int i = 0; i < 7; i++) {
+            full.note(0, 1, 0x2c);
+        }
+        full.note(60, 0, 0x4c);
+        blamed("eight are NOTED", full, 0, 2, 1, 2, 0);
         x.note(0, 1, 0x2c);
         blamed("2 is seen", x, 1, 1, 0, -1, 0);
         blamed("1 is not", x, 0, 1, 1, 3, 0);
@@ -327,6 +333,9 @@ public final class ForesightTest {
             for (int n = 0; n <= 20; n++) {
                 years(empty, failing, looping, from, n);
             }
+        }
+        for (int from = 2; from < 400; from++) {
+            years(empty, failing, looping, 1000003 * from, 20);
         }
         Check.due("34: all as ever behind it", 0, () -> failing.count(0));
         for (int what : new int[] {-1, 3, Integer.MIN_VALUE, Integer.MAX_VALUE}) {

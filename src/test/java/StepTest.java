@@ -160,6 +160,9 @@ public final class StepTest {
         stands("00123c", "add 0:3 1:2", "00246c", 2);
         stands("00123c", "sub 1:2 0:3", "00000c", 0);
         stands("4f" + "3a", "add 0:1 1:1", "7c3a", 2);
+        stands("4c" + "5d", "add 0:1 1:1", "1d5d", 1);
+        stands("5c" + "4d", "add 0:1 1:1", "1c4d", 2);
+        stands("015c" + "024c", "sub 0:2 2:2", "009d024c", 1);
         stands("4e" + "3b", "add 0:1 1:1", "1c3b", 2);
         stands("012c12d0", "compare 0:2 0:2", "012c12d0", 0);
         stands("012c" + "012d", "compare 0:2 2:2", "012c012d", 2);
@@ -272,6 +275,9 @@ public final class StepTest {
         stands("12345d", "shift 0:3 -6 9", "00000c", 0);
         stands("12345d", "shift 0:3 -32 9", "00000c", 0);
         stands("99999b", "shift 0:3 -1 1", "10000d", 1);
+        stands("00885c", "shift 0:3 -1 5", "00089c", 2);
+        stands("00990c", "shift 0:3 -1 9", "00099c", 2);
+        stands("00899c", "shift 0:3 -1 1", "00090c", 2);
         stands("99999a", "shift 0:3 -0 9", "99999c", 2);
         stands("00000b", "shift 0:3 0 0", "00000c", 0);
         stands("9c", "shift 0:1 -1 1", "1c", 2);
@@ -310,6 +316,8 @@ public final class StepTest {
         edited("402022205c", "10", "40f1404040", 0);
         edited("4020225c", "5d", "40f54040", 0);
         edited("40205c225c20", "50", "40f55c404040", 0);
+        edited("402060", "19", "40f160", 1);
+        edited("402060", "90", "40f960", 1);
         edited("2020", "05", "20f5", 1);
         edited("2120", "00", "21f0", 0);
         edited("5c", "", "5c", 0);
@@ -327,6 +335,25 @@ public final class StepTest {
         fails("4020" + "a1", "edit 0:2 2", 4, 1);
         fails("402020" + "1cf1", "edit 0:3 3", 4, 1);
         fails("402020" + "1cf1", "mark 0:3 3", 4, 1);
+        fails("2020" + "1cf1", "edit 0:2 2", 4, 1);
+        fails("2222" + "20" + "a1", "edit 0:3 3", 4, 1);
+        NibbleEngine zero = Check.told("at 0 #12;at 10 #402020;edit 10:3 0;");
+        zero.steps(1);
+        Check.bytes("17: b at PLACE 0", "40f1f2", zero, 10);
+        // each one begins anew: no right HALF waits, SEEN is off, no digit has come
+        NibbleEngine again = Check.told("at 0 #40201240203040200012;at 20 #40205c;edit 0:2 2;edit 3:2 5;edit 6:2 8;"
+                + "mark 20:3 9;edit 20:1 0;");
+        again.steps(1);
+        Check.bytes("17: the first one", "40f112", again, 0);
+        again.steps(1);
+        Check.bytes("17: the second one", "40f330", again, 3);
+        again.steps(1);
+        Check.bytes("17: the third one", "404000", again, 6);
+        Check.due("17: none isn't 0", 0, () -> again.count(3));
+        again.steps(1);
+        Check.bytes("17: the fourth one", "40f15c", again, 20);
+        again.steps(1);
+        Check.due("17: without digits", 0, () -> again.count(3));
         fails("402020", "plus %1 1;edit 0:3 255%1", 1, 1);
         fails("402020", "plus %1 -1;edit 0:3 0%1", 1, 1);
         fails("402020", "edit 254:3 0", 1, 0);
