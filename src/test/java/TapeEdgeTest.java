@@ -126,9 +126,10 @@ public final class TapeEdgeTest {
         // nothing of the INSTRUCTIONS and bytes that were is left
         NibbleEngine again = new NibbleEngine();
         for (int i = 0; i < 3; i++) {
-            Check.program(again, "at 0 #1c1c;at 200 #77;add 9%3:16 9%3:16;on 15 a;a:guard 3 a;shift 5%2:9 -7 9;mark 0%1:64 0%1;");
+            Check.program(again, "at 0 #1c1c;at 200 #77;add 9%3:16 9%3:16;add 9%3:16 9%3:16;a:guard 3 a;on 15 a;"
+                    + "shift 5%2:9 -7 9;mark 0%1:64 0%1;");
         }
-        Check.program(again, "load %1 255;plus %2 3;edit 10:2 250;on 0 a;a:guard 1;test 250:6;");
+        Check.program(again, "edit 10:2 250;load %1 255;plus %2 3;on 0 a;a:guard 1;test 250:6;");
         Edge.due("bytes", 0, () -> again.at(0) + again.at(1) + again.at(200));
         again.set(3, 999);
         Edge.due("all are done", 6, () -> again.steps(50));
